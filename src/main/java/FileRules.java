@@ -561,7 +561,7 @@ public final class FileRules {
                 if (p >= stretch.end) {
                     return stretch.verdict.broken(2, stretch.end);
                 }
-                if (stretch.bytes.u1(p) != at(HEAD, p)) {
+                if (stretch.bytes.u1(p) != HEAD[p]) {
                     return stretch.verdict.broken(1, p);
                 }
             }

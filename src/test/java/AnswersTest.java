@@ -16,6 +16,7 @@ public final class AnswersTest {
         switches();
         brokenFilesChangeNothing();
         laterFilesTakeTheirPlace();
+        earlierFilesLeaveNothing();
         CHECK.finish();
     }
 
@@ -169,6 +170,7 @@ public final class AnswersTest {
         }
         rules = Trays.of(new ClassFile().method("a", "()V", 1, 1, 3, 188, 10, 177).toBytes());
         due(rules, 1, 188, 0);
+        due(rules, 2, 177, 0);
     }
 
     private static void membersByNumber() {
@@ -299,5 +301,46 @@ public final class AnswersTest {
         CHECK.due("emptied size(1)", rules.size(1), 0);
         Trays.read(rules, first().toBytes());
         stillFirst("again", rules);
+    }
+
+    /** What stood in the pool of an earlier file, broken or not, is no entry of the next one. */
+    private static void earlierFilesLeaveNothing() {
+        ClassFile names = new ClassFile();
+        while (names.entries() < 40) {
+            names.name("()V");
+        }
+        byte[] full = names.toBytes();
+        byte[] broken = Trays.cut(full, full.length + 1);
+
+        ClassFile behind = new ClassFile();
+        int half = behind.longOf(1) + 1;
+        int entry = behind.classAt(half);
+        ClassFile beyond = new ClassFile();
+        int last = beyond.classAt(30);
+        ClassFile pair = new ClassFile();
+        int type = pair.methodOf("a", "(X");
+        ClassFile links = new ClassFile();
+        int x = links.fieldOf("x", "I");
+        links.method("a", "()V", 1, 1, 178, 0, x, 177);
+        for (byte[] earlier : new byte[][] {full, broken}) {
+            for (int reads = 1; reads <= 3; reads++) {
+                FileRules rules = new FileRules();
+                for (int i = 0; i < reads; i++) {
+                    Trays.read(rules, earlier);
+                }
+                CHECK.due("the second number of a long", Trays.read(rules, behind.toBytes()), 6);
+                CHECK.due("its place", rules.place(), behind.tagPlace(entry));
+                Trays.read(rules, earlier);
+                CHECK.due("a number beyond the pool", Trays.read(rules, beyond.toBytes()), 6);
+                CHECK.due("its place", rules.place(), beyond.tagPlace(last));
+                Trays.read(rules, earlier);
+                CHECK.due("a NAME that is no type", Trays.read(rules, pair.toBytes()), 10);
+                CHECK.due("its place", rules.place(), pair.tagPlace(type));
+            }
+        }
+        FileRules rules = Trays.of(first().toBytes());
+        Trays.read(rules, first().toBytes());
+        CHECK.due("a field that only the earlier file has", Trays.read(rules, links.toBytes()), 16);
+        CHECK.due("its place", rules.place(), links.codePlace(0));
     }
 }

@@ -49,6 +49,11 @@ public final class BodiesTest {
             CHECK.broken("high byte of n " + high, Trays.with(file.toBytes(), file.bodyPlace(0) + 4, high),
                 13, file.bodyPlace(0) + 4);
         }
+        byte[] bare = new ClassFile.Row().u2(0).u2(0).u4(1201).toBytes();
+        ClassFile ended = oneMethod("()V", bare);
+        CHECK.broken("n at the end of Code", ended.toBytes(), 13, ended.bodyPlace(0) + 4);
+        ended = oneMethod("()V", Arrays.copyOf(bare, 7));
+        CHECK.broken("n beyond the end of Code", ended.toBytes(), 14, ended.bodyPlace(0) + 7);
         int end = file.bodyPlace(0) + 8 + 9 + 4;
         CHECK.broken("n goes beyond Code", Trays.with(file.toBytes(), file.bodyPlace(0) + 7, 14), 14, end);
         CHECK.broken("n takes all of Code", Trays.with(file.toBytes(), file.bodyPlace(0) + 7, 13), 14, end);

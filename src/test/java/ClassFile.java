@@ -1,6 +1,7 @@
 import java.io.ByteArrayOutputStream;
 import java.util.ArrayList;
 import java.util.List;
+import java.util.function.Consumer;
 
 /** Writes a file part by part, and remembers where the parts stand. Numbers of entries begin at 1. */
 final class ClassFile {
@@ -48,12 +49,18 @@ final class ClassFile {
     private final List<byte[]> fields = new ArrayList<>();
     private final List<byte[]> methods = new ArrayList<>();
     private byte[] fileAttributes = new byte[] {0, 0};
-    private int thisClass;
-    private int aboveClass;
+    private final int thisClass;
+    private final int aboveClass;
     final int codeName;
 
     ClassFile() {
+        this(before -> { });
+    }
+
+    /** The pool begins with the entries that are put in before. */
+    ClassFile(Consumer<ClassFile> before) {
         tags.add(-1);
+        before.accept(this);
         thisClass = classOf("Main");
         aboveClass = classOf("Top");
         codeName = name("Code");

@@ -155,6 +155,15 @@ public final class LayoutTest {
             Trays.with(Trays.with(file, sample.tagPlace(2) + 1, 0, 0), sample.methodsPlace(), 1, 0),
             5, sample.methodsPlace());
 
+        ClassFile last = new ClassFile();
+        int end = last.tagPlace(last.name("xyz"));
+        CHECK.broken("a wrong tag at the file's end", Trays.with(Trays.cut(last.toBytes(), end + 1), end, 2), 3, end);
+        CHECK.broken("a wrong length at the file's end",
+            Trays.with(Trays.cut(last.toBytes(), end + 3), end + 2, 0), 4, end);
+        CHECK.broken("a wrong n at the file's end", Trays.with(Trays.cut(last.toBytes(), 10), 8, 2), 5, 8);
+        CHECK.broken("too many fields at the file's end",
+            Trays.with(Trays.cut(last.toBytes(), last.fieldsPlace() + 2), last.fieldsPlace(), 1), 5, last.fieldsPlace());
+
         // The tag of a NAME that is cut off stands before the file's end.
         ClassFile cut = new ClassFile();
         int name = cut.name("ab cd");

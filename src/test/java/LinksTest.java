@@ -160,6 +160,16 @@ public final class LinksTest {
         for (int number : new int[] {178, 179}) {
             due(number + " x", members(number, f -> f.fieldOf("x", "I")), true, 1);
             due(number + " y", members(number, f -> f.fieldOf("y", "J")), true, 1);
+            ClassFile early = new ClassFile(f -> {
+                f.fieldAt(8, 2);
+                f.pairAt(3, 4);
+                f.name("x");
+                f.name("I");
+                f.name("zzz");
+                f.name("zzz");
+            });
+            early.field("x", "I").method("a", "()V", 1, 1, number, 0, 1, 177);
+            due(number + " of entry 1", early, true, 0);
             due(number + " x with another type", members(number, f -> f.fieldOf("x", "J")), false, 1);
             due(number + " no field", members(number, f -> f.fieldOf("z", "I")), false, 1);
             due(number + " a longer name", members(number, f -> f.fieldOf("xx", "I")), false, 1);

@@ -55,6 +55,9 @@ public final class NamesTest {
         forward.name("later");
         CHECK.whole("a CLASS before its NAME", forward.toBytes());
 
+        ClassFile alone = new ClassFile(f -> f.classAt(0));
+        CHECK.broken("the first entry of the pool", alone.toBytes(), 6, alone.tagPlace(1));
+
         ClassFile two = new ClassFile();
         int first = two.classAt(0);
         two.pairAt(0, 0);
@@ -127,6 +130,10 @@ public final class NamesTest {
         for (String type : new String[] {"I", "J", "[I"}) {
             CHECK.whole("a field's " + type, new ClassFile().field("x", type).toBytes());
         }
+        ClassFile early = new ClassFile(f -> f.name("J"));
+        CHECK.whole("a field's type that is entry 1", early.field(early.name("x"), 1).toBytes());
+        ClassFile first = new ClassFile().field("x", "V").field("y", "I");
+        CHECK.broken("the first field's type", first.toBytes(), 10, first.fieldPlace(0) + 4);
         for (String type : new String[] {"V", "[", "[J", "[[I", "II", "JJ", "IJ", "[II", "D", "i", "()V", "(I)I", "LMain;"}) {
             ClassFile file = new ClassFile().field("x", "I").field("y", type);
             CHECK.broken("a field's " + type, file.toBytes(), 10, file.fieldPlace(1) + 4);
@@ -139,6 +146,8 @@ public final class NamesTest {
         for (String type : good) {
             CHECK.whole("a method's " + type, new ClassFile().method("a", type, 1, 8, 177).toBytes());
         }
+        ClassFile first = new ClassFile().method("a", "V", 1, 24, 177).method("b", "()V", 1, 24, 177);
+        CHECK.broken("the first method's type", first.toBytes(), 10, first.methodPlace(0) + 4);
         String[] bad = {"I", "J", "[I", "V", "(", ")", "()", "(I", "(I)", "(V)V", "()VV", "()II", "()[", "()[J", "([)V",
             "((I)V", "(I))V", "()IV", "()VI", "I()V", "([[I)V", "([J)V", "(D)V", ")V", ")(V", "(I)[II",
             "(IIIIIIIII)V", "(JJJJI)V", "(JJJJJ)V", "([I[I[I[I[I[I[I[I[I)V"};
@@ -166,6 +175,16 @@ public final class NamesTest {
         ClassFile many = new ClassFile();
         many.methodOf("x", "(IIIIIIIII)V");
         CHECK.whole("a METHOD's parameters of 9 places", many.toBytes());
+
+        ClassFile early = new ClassFile(f -> {
+            f.fieldAt(2, 4);
+            f.classAt(3);
+            f.name("Other");
+            f.pairAt(5, 6);
+            f.name("x");
+            f.name("()V");
+        });
+        CHECK.broken("a FIELD's that is entry 1", early.toBytes(), 10, early.tagPlace(1));
 
         ClassFile both = new ClassFile();
         both.field("x", "V");
