@@ -66,6 +66,14 @@ final class ClassFile {
         codeName = name("Code");
     }
 
+    private ClassFile(ClassFile other) {
+        pool.all(other.pool.toBytes());
+        tags.addAll(other.tags);
+        thisClass = other.thisClass;
+        aboveClass = other.aboveClass;
+        codeName = other.codeName;
+    }
+
     private int entry(Row row) {
         tags.add(HEAD + pool.length());
         pool.all(row.toBytes());
@@ -188,6 +196,19 @@ final class ClassFile {
         row.u2(methods.size());
         methods.forEach(row::all);
         return row.all(fileAttributes).toBytes();
+    }
+
+    /** Another file with the same pool, and without members. */
+    ClassFile copy() {
+        return new ClassFile(this);
+    }
+
+    /** A file without a broken rule that is so many bytes long: an attribute fills it up. */
+    static byte[] whole(int length) {
+        ClassFile file = new ClassFile();
+        int fill = file.name("Fill");
+        int bare = file.fileAttributes(attribute(fill, row())).toBytes().length;
+        return file.fileAttributes(attribute(fill, new byte[length - bare])).toBytes();
     }
 
     /** How many numbers of entries there are, with the one behind the last. */
