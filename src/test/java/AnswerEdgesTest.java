@@ -13,6 +13,7 @@ public final class AnswerEdgesTest {
         sizesOfTheLeastAndTheLargestFile();
         sizesOfOtherNumbers();
         noBrokenFileChangesAnything();
+        earlierPoolsLeaveNoEntry();
         typesOfNoneOneAndAllFields();
         numbersOfNoneOneAndAllMethods();
         theLargestNumbersOfAMethod();
@@ -167,8 +168,10 @@ public final class AnswerEdgesTest {
         CHECK.due("answers " + Arrays.toString(before), Arrays.equals(before, due), true);
         byte[] file = second.toBytes();
         int[][] faults = {{1, 3, 0}, {3, second.tagPlace(2), 99}, {4, second.tagPlace(1) + 2, 0}, {5, second.fieldsPlace(), 9},
-            {6, second.tagPlace(2) + 2, 2}, {7, second.methodPlace(0), 1}, {8, second.classPlace() + 7, 1}, {9, second.fieldPlace(0) + 3, 2},
-            {10, second.methodPlace(0) + 5, 1}, {12, second.methodPlace(0) + 9, 1}, {13, second.bodyPlace(0) + 3, 3},
+            {6, second.tagPlace(2) + 2, 2}, {7, second.methodPlace(0), 1}, {8, second.classPlace() + 7, 1},
+            {9, second.fieldPlace(0) + 3, 2},
+            {10, second.methodPlace(0) + 5, 1}, {12, second.methodPlace(0) + 9, 1},
+            {13, second.bodyPlace(0) + 3, 3},
             {14, file.length - 3, 9}, {15, second.codePlace(0) + 25, 255}, {16, second.codePlace(0) + 3 + 2, 4}};
         for (int[] fault : faults) {
             CHECK.due("a broken file", Trays.read(rules, Trays.with(file, fault[1], fault[2])), fault[0]);
@@ -187,6 +190,29 @@ public final class AnswerEdgesTest {
         CHECK.due("a whole file", Trays.read(rules, file), 0);
         long[] after = {1, 1, second.entries(), 4, -1, 5, 19, 9, 4, 2, 4, -1, 178, 170, 0, 2, 4, 4, 4, -1, 177, -1};
         CHECK.due("answers " + Arrays.toString(answers(rules)), Arrays.equals(answers(rules), after), true);
+    }
+
+    /** Behind the pool's last entry, and behind a long, stood NAMEs in the files before. */
+    private static void earlierPoolsLeaveNoEntry() {
+        ClassFile names = new ClassFile();
+        while (names.entries() < 500) {
+            names.name("x");
+        }
+        for (int before = 0; before <= 4; before++) {
+            for (int step = -1; step <= 1; step++) {
+                ClassFile file = new ClassFile();
+                int far = file.longOf(1);
+                int n = far + 3;
+                int k = file.classAt(step == -1 ? far + 1 : step == 0 ? n : n + 1);
+                FileRules rules = new FileRules();
+                for (int i = 0; i < before; i++) {
+                    Trays.read(rules, i == 1 ? Trays.cut(names.toBytes(), names.fieldsPlace()) : names.toBytes());
+                }
+                CHECK.due("n", file.entries(), n);
+                CHECK.due("a CLASS that points to no entry", Trays.read(rules, file.toBytes()), 6);
+                CHECK.due("its place", rules.place(), file.tagPlace(k));
+            }
+        }
     }
 
     // Promise 7: the type of its field k: 1 int, 2 long, 4 ints; -1 if there is none.

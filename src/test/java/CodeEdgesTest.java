@@ -102,6 +102,11 @@ public final class CodeEdgesTest {
         for (int length : new int[] {0, 1201, 65536, 65537, 1 << 24 | 1, MAX, MIN, MIN + 1, -1}) {
             CHECK.broken("n is " + length, Trays.with(one.toBytes(), p, length >> 24, length >> 16, length >> 8, length), 13, p);
         }
+        for (int length : new int[] {0, 1, 1200, 1201}) {
+            boolean told = length >= 1 && length <= 1200;
+            ClassFile last = bodyOf(new ClassFile.Row().u2(0).u2(0).u4(length).toBytes());
+            CHECK.broken("n as the last item, " + length, last.toBytes(), told ? 14 : 13, last.bodyPlace(0) + (told ? 8 : 4));
+        }
     }
 
     private static void countOfCatches() {
